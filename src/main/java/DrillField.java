@@ -436,11 +436,11 @@ public final class DrillField {
         private final int[] ys = new int[MOST_DOTS];
 
         int x(int dot) {
-            return isWithin(dot, 0, MOST_DOTS - 1) ? xs[dot] : 0;
+            return dot >= 0 && dot < MOST_DOTS ? xs[dot] : 0;
         }
 
         int y(int dot) {
-            return isWithin(dot, 0, MOST_DOTS - 1) ? ys[dot] : 0;
+            return dot >= 0 && dot < MOST_DOTS ? ys[dot] : 0;
         }
 
         void put(int dot, int x, int y) {
@@ -898,29 +898,34 @@ public final class DrillField {
         private void seekPairs(int kind, Dots dots) {
             for (int one = 0; one < dots.number(); one++) {
                 for (int other = one + 1; other < dots.number() && dots.marches(one); other++) {
-                    if (dots.marches(other)) {
-                        seekPair(kind, one, other);
+                    if (kind == NEAR && dots.marches(other)) {
+                        seekNear(one, other);
+                    } else if (dots.marches(other)) {
+                        seekCrossing(one, other);
                     }
                 }
             }
         }
 
-        private void seekPair(int kind, int one, int other) {
+        private void seekNear(int one, int other) {
             for (int count = 1; count < openEnd; count++) {
-                if (kind == NEAR ? isNear(count, one, other) : isCrossing(count, one, other)) {
-                    tell(count, kind, one, other);
+                Spots now = standAt(count);
+                if (now.squareTo(one, now, other) < NEAREST_SQUARE) {
+                    tell(count, NEAR, one, other);
                     return;
                 }
             }
         }
 
-        private boolean isNear(int count, int one, int other) {
-            return standAt(count).squareTo(one, standAt(count), other) < NEAREST_SQUARE;
-        }
-
-        private boolean isCrossing(int count, int one, int other) {
-            Spots to = standAt(count);
-            return to.squareTo(one, to, other) <= MEETING_SQUARE && standAt(count - 1).isCrossing(to, one, other);
+        private void seekCrossing(int one, int other) {
+            for (int count = 1; count < openEnd; count++) {
+                Spots now = standAt(count);
+                boolean canMeet = now.squareTo(one, now, other) <= MEETING_SQUARE;
+                if (canMeet && standAt(count - 1).isCrossing(now, one, other)) {
+                    tell(count, CROSS, one, other);
+                    return;
+                }
+            }
         }
 
         /** What is found later counts only if it comes in an earlier count, so that count closes the looking. */

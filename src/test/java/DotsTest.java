@@ -39,6 +39,10 @@ public final class DotsTest {
             field.band(dots);
             int beyond = dots;
             CHECK.due("legs of the last of " + dots, field.legs(dots - 1, 20), 14);
+            CHECK.due("new legs of the last of " + dots, field.legs(dots - 1, 14), 20);
+            CHECK.holds("the last of " + dots + " is ill", !field.ill(dots - 1, true));
+            field.alternate(0, dots - 1, false);
+            CHECK.holds("the last of " + dots + " has an alternate", field.ill(dots - 1, true));
             CHECK.index("legs beyond " + dots, () -> field.legs(beyond, 20));
         }
         DrillField field = new DrillField();

@@ -10,6 +10,7 @@ public final class FaultTest {
         nearness();
         firstPartIsNear();
         crossings();
+        touching();
         onTheLine();
         whoMarches();
         agreesWithLongWays();
@@ -139,12 +140,40 @@ public final class FaultTest {
         far.legs(0, 40);
         far.legs(1, 40);
         fault("too near to cross", far, 1, 1, DrillField.STEP, 1, -1);
+        DrillField apart = twoDots(1, 120, row(39, 100, 43, 101), row(79, 100, 5, 89));
+        apart.legs(0, 40);
+        apart.legs(1, 40);
+        fault("ways that cross where they start, and end far apart", apart, 1, 1, DrillField.CROSS, 0, 1);
         DrillField beside = twoDots(1, 120, row(20, 0, 12, 18), row(20, 10, 26, 22));
         beside.legs(1, 20);
         none("the way of the dot 0 ends ahead of the other", beside, 1);
         DrillField besides = twoDots(1, 120, row(12, 18, 20, 0), row(26, 22, 20, 10));
         besides.legs(0, 20);
         none("the way of the dot 1 ends ahead of the other", besides, 1);
+    }
+
+    /** Who starts, or ends, on the other's way, from either side and towards either side, does not cross it. */
+    private static void touching() {
+        int[][] ways = {
+            {20, 20, 20, 32, 20, 26, 32, 26}, {20, 20, 20, 32, 20, 26, 8, 26}, {20, 32, 20, 20, 20, 26, 33, 23},
+            {20, 32, 20, 20, 20, 26, 6, 26}, {20, 20, 20, 34, 32, 24, 20, 22}, {20, 20, 20, 34, 8, 24, 20, 22},
+            {20, 34, 20, 20, 32, 32, 20, 31}, {20, 34, 20, 20, 8, 32, 20, 31},
+        };
+        for (int[] way : ways) {
+            none("touching", twoDots(1, 120, row(way[0], way[1], way[4], way[5]), row(way[2], way[3], way[6], way[7])), 1);
+            none("touched", twoDots(1, 120, row(way[4], way[5], way[0], way[1]), row(way[6], way[7], way[2], way[3])), 1);
+        }
+        int[][] crossed = {
+            {20, 20, 20, 34, 14, 28, 28, 24}, {20, 20, 20, 34, 26, 28, 12, 24},
+            {20, 34, 20, 20, 14, 26, 28, 30}, {20, 34, 20, 20, 26, 26, 12, 30},
+            {20, 20, 21, 34, 25, 20, 20, 21}, {20, 20, 21, 34, 20, 21, 25, 20},
+        };
+        for (int[] way : crossed) {
+            DrillField field = twoDots(1, 60, row(way[0], way[1], way[4], way[5]), row(way[2], way[3], way[6], way[7]));
+            field.legs(0, 15);
+            field.legs(1, 15);
+            fault("crossing", field, 1, 1, DrillField.CROSS, 0, 1);
+        }
     }
 
     private static void onTheLine() {

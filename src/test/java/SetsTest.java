@@ -41,8 +41,8 @@ public final class SetsTest {
         DrillField two = withDots(2);
         places("a line of two", two, two.line(5, 6, 1600, 0), 5, 6, 1600, 0);
         DrillField ten = withDots(10);
-        places("a line of ten", ten, ten.line(100, 840, 0, 800), 100, 840, 88, 835, 77, 831, 66, 826, 55, 822,
-                44, 817, 33, 813, 22, 808, 11, 804, 0, 800);
+        places("a line of ten", ten, ten.line(105, 840, 5, 800), 105, 840, 93, 835, 82, 831, 71, 826, 60, 822,
+                49, 817, 38, 813, 27, 808, 16, 804, 5, 800);
     }
 
     private static void lineRange() {
@@ -91,6 +91,7 @@ public final class SetsTest {
         DrillField field = withDots(5);
         places("a wedge", field, field.wedge(700, 100, 30), 700, 100, 670, 130, 730, 130, 640, 160, 760, 160);
         places("at the left edge", field, field.wedge(800, 0, 400), 800, 0, 400, 400, 1200, 400, 0, 800, 1600, 800);
+        places("the least gap", field, field.wedge(2, 838, 1), 2, 838, 1, 839, 3, 839, 0, 840, 4, 840);
         DrillField two = withDots(2);
         places("a wedge of two", two, two.wedge(400, 440, 400), 400, 440, 0, 840);
     }
