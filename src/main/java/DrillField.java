@@ -327,6 +327,11 @@ public final class DrillField {
         return number >= least && number <= most;
     }
 
+    /** Whether a row that is made for the dots, or for their places, has such an index. */
+    private static boolean isInRow(int index) {
+        return index >= 0 && index < MOST_DOTS;
+    }
+
     private static boolean isOnField(int x, int y) {
         return isWithin(x, 0, MOST_X) && isWithin(y, 0, MOST_Y);
     }
@@ -383,17 +388,17 @@ public final class DrillField {
         }
 
         int legsOf(int dot) {
-            return isWithin(dot, 0, MOST_DOTS - 1) ? legs[dot] : FIRST_LEGS;
+            return isInRow(dot) ? legs[dot] : FIRST_LEGS;
         }
 
         void giveLegs(int dot, int tenths) {
-            if (isWithin(dot, 0, MOST_DOTS - 1)) {
+            if (isInRow(dot)) {
                 legs[dot] = tenths;
             }
         }
 
         void letBeIll(int dot, boolean ill) {
-            if (isWithin(dot, 0, MOST_DOTS - 1)) {
+            if (isInRow(dot)) {
                 isIll[dot] = ill;
             }
         }
@@ -406,7 +411,7 @@ public final class DrillField {
         }
 
         boolean marches(int dot) {
-            if (!isWithin(dot, 0, MOST_DOTS - 1)) {
+            if (!isInRow(dot)) {
                 return false;
             }
             if (!isIll[dot]) {
@@ -436,15 +441,15 @@ public final class DrillField {
         private final int[] ys = new int[MOST_DOTS];
 
         int x(int dot) {
-            return dot >= 0 && dot < MOST_DOTS ? xs[dot] : 0;
+            return isInRow(dot) ? xs[dot] : 0;
         }
 
         int y(int dot) {
-            return dot >= 0 && dot < MOST_DOTS ? ys[dot] : 0;
+            return isInRow(dot) ? ys[dot] : 0;
         }
 
         void put(int dot, int x, int y) {
-            if (isWithin(dot, 0, MOST_DOTS - 1)) {
+            if (isInRow(dot)) {
                 xs[dot] = x;
                 ys[dot] = y;
             }
@@ -457,7 +462,10 @@ public final class DrillField {
         }
 
         int squareTo(int dot, Spots other, int otherDot) {
-            return square(x(dot) - other.x(otherDot), y(dot) - other.y(otherDot));
+            if (!isInRow(dot) || !isInRow(otherDot)) {
+                return 0;
+            }
+            return square(xs[dot] - other.xs[otherDot], ys[dot] - other.ys[otherDot]);
         }
 
         /** Whether two ways from here cross. */
@@ -467,10 +475,15 @@ public final class DrillField {
 
         /** Whether the ends of the other's way lie on unlike sides of the line of the one's, none on it. */
         private boolean isParted(Spots goal, int one, int other) {
-            int wayX = goal.x(one) - x(one);
-            int wayY = goal.y(one) - y(one);
-            int first = wayX * (y(other) - y(one)) - wayY * (x(other) - x(one));
-            int last = wayX * (goal.y(other) - y(one)) - wayY * (goal.x(other) - x(one));
+            if (!isInRow(one) || !isInRow(other)) {
+                return false;
+            }
+            int fromX = xs[one];
+            int fromY = ys[one];
+            int wayX = goal.xs[one] - fromX;
+            int wayY = goal.ys[one] - fromY;
+            int first = wayX * (ys[other] - fromY) - wayY * (xs[other] - fromX);
+            int last = wayX * (goal.ys[other] - fromY) - wayY * (goal.xs[other] - fromX);
             return first < 0 && last > 0 || first > 0 && last < 0;
         }
     }
@@ -576,11 +589,11 @@ public final class DrillField {
         }
 
         int placeOf(int dot) {
-            return isWithin(dot, 0, MOST_DOTS - 1) ? places[dot] : NONE;
+            return isInRow(dot) ? places[dot] : NONE;
         }
 
         void send(int dot, int place, Spots goal) {
-            if (isWithin(dot, 0, MOST_DOTS - 1)) {
+            if (isInRow(dot)) {
                 places[dot] = place;
                 ends.put(dot, goal.x(place), goal.y(place));
             }
@@ -744,7 +757,7 @@ public final class DrillField {
             for (int step = 0; step < number && dot != NONE; step++) {
                 narrowGaps(dot, place);
                 place = nearestPlace();
-                if (!isWithin(place, 0, MOST_DOTS - 1)) {
+                if (!isInRow(place)) {
                     return;
                 }
                 movePrices(newcomer, gaps[place]);
@@ -756,7 +769,7 @@ public final class DrillField {
 
         /** Looks from a dot, who would have to leave a place (or has none yet), at all places not reached. */
         private void narrowGaps(int dot, int left) {
-            if (!isWithin(dot, 0, MOST_DOTS - 1)) {
+            if (!isInRow(dot)) {
                 return;
             }
             for (int place = 0; place < number; place++) {
@@ -793,7 +806,7 @@ public final class DrillField {
         }
 
         private void raise(int dot, long by) {
-            if (isWithin(dot, 0, MOST_DOTS - 1)) {
+            if (isInRow(dot)) {
                 dotPrices[dot] += by;
             }
         }
@@ -801,9 +814,9 @@ public final class DrillField {
         /** Along the chain, from the free place at its end, each takes the place that lies behind his own. */
         private void sendOn(int newcomer, int freePlace) {
             int place = freePlace;
-            for (int step = 0; step < number && isWithin(place, 0, MOST_DOTS - 1); step++) {
+            for (int step = 0; step < number && isInRow(place); step++) {
                 int left = ahead[place];
-                holders[place] = isWithin(left, 0, MOST_DOTS - 1) ? holders[left] : newcomer;
+                holders[place] = isInRow(left) ? holders[left] : newcomer;
                 place = left;
             }
         }
@@ -896,8 +909,9 @@ public final class DrillField {
         }
 
         private void seekPairs(int kind, Dots dots) {
-            for (int one = 0; one < dots.number(); one++) {
-                for (int other = one + 1; other < dots.number() && dots.marches(one); other++) {
+            int howMany = dots.number();
+            for (int one = 0; one < howMany; one++) {
+                for (int other = one + 1; other < howMany && dots.marches(one); other++) {
                     if (kind == NEAR && dots.marches(other)) {
                         seekNear(one, other);
                     } else if (dots.marches(other)) {
@@ -943,14 +957,15 @@ public final class DrillField {
         private final Fault found = new Fault();
 
         Fault look(Part part, Dots dots) {
+            int howMany = Math.min(dots.number(), MOST_DOTS);
             found.clear();
-            part.stand(0, before, dots.number());
+            part.stand(0, before, howMany);
             for (int count = 1; count <= part.counts() && !found.isFound(); count++) {
-                part.stand(count, now, dots.number());
-                measure(dots.number());
-                recountSteps(count, part.tempo(), dots);
-                recountNear(count, dots);
-                recountCrossings(count, dots);
+                part.stand(count, now, howMany);
+                measure(howMany);
+                recountSteps(count, part.tempo(), dots, howMany);
+                recountNear(count, dots, howMany);
+                recountCrossings(count, dots, howMany);
                 before.copy(now);
             }
             return found;
@@ -958,27 +973,25 @@ public final class DrillField {
 
         /** All distances of this count; a dot's own one is that from the count ahead. */
         private void measure(int howMany) {
-            int last = Math.min(howMany, MOST_DOTS);
-            for (int one = 0; one < last; one++) {
-                for (int other = 0; other < last; other++) {
-                    squares[one][other] = now.squareTo(one, one == other ? before : now, other);
+            for (int one = 0; one < howMany; one++) {
+                squares[one][one] = now.squareTo(one, before, one);
+                for (int other = one + 1; other < howMany; other++) {
+                    squares[one][other] = now.squareTo(one, now, other);
                 }
             }
         }
 
-        private void recountSteps(int count, int tempo, Dots dots) {
-            int last = Math.min(dots.number(), MOST_DOTS);
-            for (int dot = 0; dot < last && !found.isFound(); dot++) {
+        private void recountSteps(int count, int tempo, Dots dots, int howMany) {
+            for (int dot = 0; dot < howMany && !found.isFound(); dot++) {
                 if (dots.marches(dot) && squares[dot][dot] > dots.stepSquare(dot, tempo)) {
                     found.tell(count, STEP, dot, NONE);
                 }
             }
         }
 
-        private void recountNear(int count, Dots dots) {
-            int last = Math.min(dots.number(), MOST_DOTS);
-            for (int one = 0; one < last; one++) {
-                for (int other = one + 1; other < last && !found.isFound(); other++) {
+        private void recountNear(int count, Dots dots, int howMany) {
+            for (int one = 0; one < howMany; one++) {
+                for (int other = one + 1; other < howMany && !found.isFound(); other++) {
                     if (squares[one][other] < NEAREST_SQUARE && dots.marches(one) && dots.marches(other)) {
                         found.tell(count, NEAR, one, other);
                     }
@@ -986,9 +999,9 @@ public final class DrillField {
             }
         }
 
-        private void recountCrossings(int count, Dots dots) {
-            for (int one = 0; one < dots.number(); one++) {
-                for (int other = one + 1; other < dots.number() && !found.isFound(); other++) {
+        private void recountCrossings(int count, Dots dots, int howMany) {
+            for (int one = 0; one < howMany; one++) {
+                for (int other = one + 1; other < howMany && !found.isFound(); other++) {
                     if (before.isCrossing(now, one, other) && dots.marches(one) && dots.marches(other)) {
                         found.tell(count, CROSS, one, other);
                     }
@@ -1067,23 +1080,20 @@ public final class DrillField {
             return Math.max(downBy(sum, POINTS_DIVISOR) - penalties[band] - loss, 0);
         }
 
+        /** A band's rank is the number of those ahead of it. */
         int bandAt(int rank, int showTenths) {
             for (int band = 0; band < BANDS; band++) {
-                if (rankOf(band, showTenths) == rank) {
+                int ahead = 0;
+                for (int other = 0; other < BANDS; other++) {
+                    if (other != band && isAhead(other, band, showTenths)) {
+                        ahead++;
+                    }
+                }
+                if (ahead == rank) {
                     return band;
                 }
             }
             return NONE;
-        }
-
-        private int rankOf(int band, int showTenths) {
-            int rank = 0;
-            for (int other = 0; other < BANDS; other++) {
-                if (other != band && isAhead(other, band, showTenths)) {
-                    rank++;
-                }
-            }
-            return rank;
         }
 
         private boolean isAhead(int one, int other, int showTenths) {
