@@ -3,7 +3,7 @@ import java.util.function.LongSupplier;
 /** Many runs of calls by a row of numbers that is always the same: each answer is compared with PlainField's. */
 public final class RandomRunsTest {
     private static final Check CHECK = new Check("RandomRunsTest");
-    private static final int RUNS = 400, CALLS = 300;
+    private static final int RUNS = 440, MOST_CALLS = 512;
     private static final int[] WILD = {
         Integer.MIN_VALUE, Integer.MIN_VALUE + 1, -70000, -1001, -1000, -21, -2, -1, 0, 1, 2, 3, 6, 9, 10, 11, 12, 13,
         20, 21, 40, 41, 60, 64, 65, 240, 241, 400, 401, 840, 841, 1000, 1001, 1600, 1601, 9999, 10000, 70000,
@@ -19,7 +19,7 @@ public final class RandomRunsTest {
     private int parts;
     private int isWildAmong;
     private boolean isCrowd;
-    private String said;
+    private int calls;
 
     public static void main(String[] args) {
         for (int run = 0; run < RUNS; run++) {
@@ -42,15 +42,17 @@ public final class RandomRunsTest {
         isCrowd = run % 5 < 2;
         if (run % 4 != 0) {
             int told = 2 + pick(isCrowd ? 3 : 9);
+            calls++;
             field.band(told);
             plain.band(told);
             dots = told;
         }
         for (int dot = 0; isCrowd && dot < dots; dot++) {
+            calls++;
             field.legs(dot, 40);
             plain.legs(dot, 40);
         }
-        for (int call = 0; call < CALLS; call++) {
+        while (calls < MOST_CALLS) {
             call(pick(30));
         }
     }
@@ -120,10 +122,13 @@ public final class RandomRunsTest {
         }
     }
 
+    /** What an object answers after its last call is free. */
     private long same(String what, LongSupplier got, LongSupplier want) {
-        said = what;
+        calls++;
         long answer = answer(got);
-        CHECK.due(said, answer, answer(want));
+        if (calls <= MOST_CALLS) {
+            CHECK.due(what, answer, answer(want));
+        }
         return answer;
     }
 
