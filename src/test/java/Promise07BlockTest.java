@@ -79,6 +79,10 @@ public final class Promise07BlockTest {
             Scenes.stands(CHECK, "the last place", field, 0, 0, dots - 1, 1600, 840);
             CHECK.index("one more than " + dots, () -> field.place(0, beyond));
         }
+        DrillField fewer = Scenes.withDots(10);
+        CHECK.argument("of ten dots a place is beside the field", () -> fewer.block(1597, 840, 5, 1));
+        fewer.band(4);
+        CHECK.due("four dots have no such place", fewer.block(1597, 840, 5, 1), 0);
     }
 
     private static void xOfTheField() {

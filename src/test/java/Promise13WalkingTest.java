@@ -7,6 +7,7 @@ public final class Promise13WalkingTest {
         leastAndGreatest();
         firstPart();
         allDots();
+        noMoreDotsThanTold();
         throwsIndex();
         nothingHasChanged();
         CHECK.end();
@@ -53,6 +54,19 @@ public final class Promise13WalkingTest {
         CHECK.due("one is ill", field.walking(1), 500);
         field.ill(0, true);
         CHECK.due("both are ill", field.walking(1), 500);
+    }
+
+    private static void noMoreDotsThanTold() {
+        CHECK.sentence("Promise 13: a set has a place for each dot");
+        DrillField field = Scenes.withDots(10);
+        CHECK.argument("ten dots, the last place beside the field", () -> field.line(0, 0, 1601, 0));
+        CHECK.argument("ten dots, the last place beside the field", () -> field.block(800, 400, 1, 100));
+        field.band(2);
+        field.line(0, 0, 100, 0);
+        field.part(0, 4, 60, false);
+        field.part(0, 4, 60, true);
+        CHECK.due("two dots in the first part", field.walking(0), 0);
+        CHECK.due("two dots in the next part", field.walking(1), 0);
     }
 
     private static void throwsIndex() {

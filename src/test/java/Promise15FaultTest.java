@@ -104,6 +104,9 @@ public final class Promise15FaultTest {
         Scenes.fault(CHECK, "14, 15, 15", second, 1, 2, DrillField.STEP, 0, DrillField.NONE);
         DrillField near = Scenes.twoDots(64, 60, row(0, 0, 73, 0), row(0, 0, 9, 0));
         Scenes.fault(CHECK, "near at the last count", near, 1, 64, DrillField.NEAR, 0, 1);
+        DrillField beyond = Scenes.twoDots(4, 60, row(0, 0, 50, 0), row(0, 0, 10, 0));
+        Scenes.noFault(CHECK, "near if they went on for a count more", beyond, 1);
+        Scenes.noFault(CHECK, "the part ahead", beyond, 0);
     }
 
     private static void stepIsAtMostTheLegs() {

@@ -11,6 +11,7 @@ public final class Promise15PairsTest {
         otherEndsBesideTheWay();
         oneStartsBesideTheOthersWay();
         oneEndsBesideTheOthersWay();
+        asLittleBesideAsCanBe();
         noneOnTheLine();
         unlikeSidesOfOneLineAlone();
         waysOfThisCount();
@@ -139,6 +140,15 @@ public final class Promise15PairsTest {
         cross("ends on the other side", row(28, 50), row(28, 29), row(10, 30), row(40, 30));
         doNotCross("ends on the line", row(28, 50), row(28, 30), row(10, 30), row(40, 30));
         doNotCross("ends on the same side", row(28, 50), row(28, 31), row(10, 30), row(40, 30));
+    }
+
+    /** The place x 20, y 21 lies less than a tenth beside the way of the one. */
+    private static void asLittleBesideAsCanBe() {
+        CHECK.sentence("Promise 15: lie on unlike sides of the line of the other one, none on it.");
+        cross("starts beside", row(20, 20), row(21, 34), row(20, 21), row(25, 20));
+        cross("ends beside", row(20, 20), row(21, 34), row(25, 20), row(20, 21));
+        cross("starts beside, the way being back", row(21, 34), row(20, 20), row(20, 33), row(31, 33));
+        doNotCross("starts there, and goes away from the way", row(20, 20), row(21, 34), row(20, 21), row(10, 22));
     }
 
     private static void noneOnTheLine() {

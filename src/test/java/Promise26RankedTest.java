@@ -92,6 +92,10 @@ public final class Promise26RankedTest {
             order("two of them", field, 2, 4, 0, 1, 3, 5);
             field.judge(2, caption, 1);
             order("one less", field, 4, 2, 0, 1, 3, 5);
+            field.judge(5, caption, 3);
+            order("the last band", field, 5, 4, 2, 0, 1, 3);
+            field.judge(1, caption, 4);
+            order("the band 1", field, 1, 5, 4, 2, 0, 3);
         }
     }
 
