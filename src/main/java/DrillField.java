@@ -294,7 +294,6 @@ public final class DrillField {
         return sets.keepDraft();
     }
 
-    /** How far apart sound comes to a seat from those sounding who march. */
     private int soundApart(int seatX, int seatY) {
         int least = NONE;
         int most = NONE;
@@ -468,7 +467,6 @@ public final class DrillField {
             return square(xs[dot] - other.xs[otherDot], ys[dot] - other.ys[otherDot]);
         }
 
-        /** Whether two ways from here cross. */
         boolean isCrossing(Spots goal, int one, int other) {
             return isParted(goal, one, other) && isParted(goal, other, one);
         }
@@ -607,7 +605,6 @@ public final class DrillField {
             return starts.y(dot) + downBy(count * (ends.y(dot) - starts.y(dot)), counts);
         }
 
-        /** Tells where all are at a count. */
         void stand(int count, Spots where, int howMany) {
             for (int dot = 0; dot < howMany; dot++) {
                 where.put(dot, xOf(dot, count), yOf(dot, count));
@@ -640,7 +637,6 @@ public final class DrillField {
         }
     }
 
-    /** The row of parts. */
     private static final class Show {
         private final Part[] parts = new Part[MOST_PARTS];
         // stands for a part that is not there, so that no reference is ever null
@@ -709,6 +705,8 @@ public final class DrillField {
     private static final class Pairing {
         // above all that the places can add to the weights of a band
         private static final long SQUARE_WEIGHT = 10_000_000_000L;
+        // above all that weights and prices can come to
+        private static final long NOT_SEEN = 0x7fff_ffff_ffff_ffffL;
 
         private final long[][] weights = new long[MOST_DOTS][MOST_DOTS];
         private final long[] dotPrices = new long[MOST_DOTS];
@@ -748,7 +746,7 @@ public final class DrillField {
 
         private void bringIn(int newcomer) {
             for (int place = 0; place < number; place++) {
-                gaps[place] = Long.MAX_VALUE;
+                gaps[place] = NOT_SEEN;
                 ahead[place] = NONE;
                 isReached[place] = false;
             }
@@ -783,7 +781,7 @@ public final class DrillField {
 
         private int nearestPlace() {
             int nearest = NONE;
-            long least = Long.MAX_VALUE;
+            long least = NOT_SEEN;
             for (int place = 0; place < number; place++) {
                 if (!isReached[place] && gaps[place] < least) {
                     least = gaps[place];

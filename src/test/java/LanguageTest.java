@@ -1,4 +1,6 @@
 import java.io.IOException;
+import java.lang.reflect.Field;
+import java.lang.reflect.Modifier;
 import java.nio.charset.StandardCharsets;
 import java.nio.file.Files;
 import java.nio.file.Path;
@@ -7,10 +9,10 @@ import java.util.Set;
 import java.util.regex.Matcher;
 import java.util.regex.Pattern;
 
-/** What a text alone can show of the rules of LANGUAGE.md. It runs in the project's folder, where the source is. */
+/** What the text and the fields alone can show of the rules of LANGUAGE.md. It runs in the project's folder, where the source is. */
 public final class LanguageTest {
     private static final Check CHECK = new Check("LanguageTest");
-    private static final int MOST_LINES = 60, MOST_PARAMETERS = 7;
+    private static final int MOST_LINES = 60, MOST_PARAMETERS = 7, MOST_FIELDS = 20;
     private static final Set<String> MATH = Set.of("min", "max", "abs", "floorDiv", "floorMod");
     private static final List<String> BANNED = List.of("import", "package", "try", "catch", "finally", "synchronized",
             "assert", "instanceof", "var", "protected", "volatile", "transient", "native", "strictfp", "double", "float",
@@ -28,6 +30,11 @@ public final class LanguageTest {
         library(code);
         exceptions(code);
         methods(code);
+        constructors(code);
+        fields(DrillField.class);
+        for (Class<?> inside : DrillField.class.getDeclaredClasses()) {
+            fields(inside);
+        }
         CHECK.end();
     }
 
@@ -40,8 +47,7 @@ public final class LanguageTest {
         Matcher called = Pattern.compile("\\b(Math|Integer|Long|Arrays|String|StringBuilder|List|ArrayList)\\b\\.?(\\w*)")
                 .matcher(code);
         while (called.find()) {
-            boolean isFine = called.group(1).equals("Math") && MATH.contains(called.group(2))
-                    || called.group().equals("Long.MAX_VALUE");
+            boolean isFine = called.group(1).equals("Math") && MATH.contains(called.group(2));
             CHECK.holds("of the library: " + called.group(), isFine);
         }
     }
@@ -66,5 +72,41 @@ public final class LanguageTest {
             CHECK.holds("few parameters: " + name, method.group(4).split(",").length <= MOST_PARAMETERS);
         }
         CHECK.holds("methods are found: " + found, found > 100);
+    }
+
+    private static void constructors(String code) {
+        Matcher constructor = Pattern.compile("(?m)^( {4}| {8})(?:public )?([A-Z]\\w*)\\(([^)]*)\\) \\{\n(?s:(.*?))^\\1\\}")
+                .matcher(code);
+        int found = 0;
+        while (constructor.find()) {
+            found++;
+            CHECK.holds("no throw in the constructor of " + constructor.group(2),
+                    !constructor.group(4).matches("(?s).*\\bthrow\\b.*"));
+        }
+        CHECK.holds("constructors are found: " + found, found > 1);
+    }
+
+    private static void fields(Class<?> of) {
+        int own = 0;
+        for (Field field : of.getDeclaredFields()) {
+            String name = of.getSimpleName() + "." + field.getName();
+            if (Modifier.isStatic(field.getModifiers())) {
+                CHECK.holds("a constant: " + name, Modifier.isFinal(field.getModifiers())
+                        && (field.getType() == int.class || field.getType() == long.class));
+            } else {
+                own++;
+            }
+            CHECK.holds("a type of the rules: " + name, isOfTheRules(field.getType()));
+        }
+        CHECK.holds("few fields: " + of.getSimpleName() + " has " + own, own <= MOST_FIELDS);
+    }
+
+    /** Numbers, texts and own classes; rows of numbers and of own classes; rows of rows of numbers. */
+    private static boolean isOfTheRules(Class<?> type) {
+        Class<?> part = type.isArray() ? type.getComponentType() : type;
+        if (part.isArray()) {
+            return part.getComponentType().isPrimitive();
+        }
+        return part.isPrimitive() || part == String.class || part.getEnclosingClass() == DrillField.class;
     }
 }
